@@ -525,7 +525,7 @@ public final class KnockBank {
         }
         overheard.sift();
         trial.begin(told);
-        int bits = (1 << MOST_COLD + 1) - 1;
+        int bits = (1 << (MOST_COLD + 1)) - 1;
         for (int i = 0; i < overheard.manyKnown(); i++) {
             if (overheard.counts(i) && told.raps[overheard.rap[i]].hand == hand) {
                 bits &= coldsBy(i);
@@ -543,8 +543,8 @@ public final class KnockBank {
         int bits = 0;
         for (int cold = 0; cold <= MOST_COLD; cold++) {
             trial.cold[asTold.hand] = cold;
-            int shake = trial.shake(asTold.hand, asTold.wood, overheard.place[i]);
-            if (shake >= Scene.LONGER_FROM == overheard.isLonger[i]) {
+            boolean isLonger = trial.shake(asTold.hand, asTold.wood, overheard.place[i]) >= Scene.LONGER_FROM;
+            if (isLonger == overheard.isLonger[i]) {
                 bits |= 1 << cold;
             }
         }
@@ -705,7 +705,7 @@ public final class KnockBank {
     private static int digitsOfCode(int code) {
         int digits = 0;
         for (int shift = 2 * (BEATS - 1); shift >= 0; shift -= 2) {
-            digits = digits * 10 + (code >> shift & 3) + 1;
+            digits = digits * 10 + ((code >> shift) & 3) + 1;
         }
         return digits;
     }
@@ -915,7 +915,8 @@ public final class KnockBank {
 
         /** Five bits of a letter; letters behind the sixth have none. */
         private static int letterBits(int sign, int place) {
-            return place < MOST_LETTERS ? sign - 'a' + 1 << 5 * (MOST_LETTERS - 1 - place) : 0;
+            int shift = 5 * (MOST_LETTERS - 1 - place);
+            return shift >= 0 ? (sign - 'a' + 1) << shift : 0;
         }
     }
 
@@ -1354,11 +1355,13 @@ public final class KnockBank {
         }
 
         private static int beatOfHalf(int half, int k) {
-            return (half >> 4 - 2 * k & 3) + 1;
+            return ((half >> (4 - 2 * k)) & 3) + 1;
         }
 
         int apartFromCode(int code) {
-            return gaps[code / HALVES & HALVES - 1] + gaps[HALVES + (code & HALVES - 1)];
+            int high = (code / HALVES) & (HALVES - 1);
+            int low = code & (HALVES - 1);
+            return gaps[high] + gaps[HALVES + low];
         }
 
         int apartFrom(int[] others) {
@@ -1686,7 +1689,7 @@ public final class KnockBank {
             if (shake <= 0 || shake >= ALWAYS) {
                 return shake >= ALWAYS;
             }
-            number = number * 1103515245 + 12345 & Integer.MAX_VALUE;
+            number = (number * 1103515245 + 12345) & Integer.MAX_VALUE;
             return shake > number / 65536 % 100;
         }
 

@@ -65,6 +65,8 @@ public final class FaultsTest {
 
     private static void lines() {
         bad(";", 1, 0);
+        bad(";".repeat(700), 1, 0);
+        bad("law near 1" + "+1".repeat(20) + "<".repeat(650), 1, 51);
         bad("like 3;;", 1, 7);
         bad("like", 1, 4);
         bad("like  \n", 1, 7);

@@ -289,6 +289,11 @@ public final class PromisesTest {
         worth("9999", 9999);
         worth("0007", 7);
         worth("1 < (not 0)", 0);
+        worth("0 or 0", 0);
+        worth("not ".repeat(63) + "7", 0);
+        worth("not ".repeat(62) + "7", 1);
+        worth("(((((((( " + "not ".repeat(62) + "0 ))))))))", 0);
+        worth("not ".repeat(30) + "1 < (1 + (1 + (1 + (1 + (1 + (1 + (1 + (1)))))))) ", 1);
     }
 
     private static void lawHasErrors() {
@@ -303,6 +308,13 @@ public final class PromisesTest {
         worth("0 - 1000 * 1000 * 1000 * 1000", -1000000000000L);
         worth("0 - 1000 * 1000 * 1000 * 1000 - 1", ERROR);
         worth("(0 - 1000 * 1000 * 1000) * 1001", ERROR);
+        worth("1000 * 1000 * 1000 * 999 + 1000 * 1000 * 1000", 1000000000000L);
+        worth("0 - 1000 * 1000 * 1000 * 999 + (0 - 1000 * 1000 * 1000)", -1000000000000L);
+        worth("0 - 1000 * 1000 * 1000 * 999 + (0 - 1000 * 1000 * 1001)", ERROR);
+        worth("1000 * 1000 * 1000 * 999 - (0 - 1000 * 1000 * 1000)", 1000000000000L);
+        worth("1000 * 1000 * 1000 * 999 - (0 - 1000 * 1000 * 1001)", ERROR);
+        worth("0 - 1000 * 1000 * 1000 * 500 + 1000 * 1000 * 1000 * 600", 100000000000L);
+        worth("1000 * 1000 * 1000 * 600 - 1000 * 1000 * 1000 * 600", 0);
         worth("4096 * 4096 * 256 * (4096 * 4096 * 256)", ERROR);
         worth("(1000 * 1000 * 1000 * 1000) * (1000 * 1000 * 1000 * 1000)", ERROR);
         worth("0 * (1000 * 1000 * 1000 * 1000)", 0);
@@ -933,6 +945,22 @@ public final class PromisesTest {
         due("still soft", 0, x.wood(0, 1));
         x.days(1);
         due("more from now", 0, x.tried(0, 0, 5));
+        x = Tell.bank("like 0;hand a 3 7 1 1 1 1 1 1;hand b 2 8 1 1 4 1 1 1;wood o 0 0 a;wood p 0 2 a;rap a o 0;rap b p 0;"
+            + "law shake 100 * cold * (place = 0) + 100 * aged * (place = 1) + 100 * (9 - hard) * (place = 2);");
+        due("cold, old and soft", 2, x.tried(0, 0, 1));
+        x = Tell.bank("like 0;hand a 3 7 1 1 1 1 1 1;hand b 2 8 1 1 4 1 1 1;wood o 0 0 a;wood p 0 2 a;rap a o 0;rap b p 0;"
+            + "law shake 100 * cold * (place = 0);");
+        due("cold is 0", 0, x.tried(0, 0, 1));
+        due("not old, but cold", 2, x.tried(1, 0, 1));
+        x = Tell.bank("like 0;hand a 3 7 1 1 1 1 1 1;hand b 2 8 1 1 4 1 1 1;wood o 0 0 a;wood p 0 2 a;rap a o 0;rap b p 0;"
+            + "law shake 100 * aged * (place = 1);");
+        due("aged is 0", 0, x.tried(1, 0, 1));
+        due("hard, but old", 2, x.tried(4, 0, 1));
+        x = Tell.bank("like 0;hand a 3 7 1 1 1 1 1 1;hand b 2 8 1 1 4 1 1 1;wood o 0 0 a;wood p 0 2 a;rap a o 0;rap b p 0;"
+            + "law shake 100 * (9 - hard) * (place = 2);");
+        due("hard is 9", 0, x.tried(4, 0, 1));
+        due("not cold, but soft", 2, x.tried(0, 0, 1));
+        due("the like of 24", 0, x.tried(3, 0, 1));
     }
 
     private static void undone() {
@@ -963,9 +991,10 @@ public final class PromisesTest {
         due("20 at most", 20, x.count(11));
         for (int i = 19; i >= 0; i--) {
             due("left", i, x.undo());
+            due("cold with " + i + " left", 1 + (5 + i) % 9, x.hand(0, 0));
         }
         due("none of 20", -1, x.undo());
-        due("as behind the fifth", 1 + 5, x.hand(0, 0));
+        due("as behind the fifth", 6, x.hand(0, 0));
         x.plane(0);
         x.plane(0);
         due("a second plane fades none", 1, x.undo());
