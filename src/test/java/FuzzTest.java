@@ -1,5 +1,4 @@
 import java.nio.charset.StandardCharsets;
-import java.util.NoSuchElementException;
 import java.util.Random;
 
 /** Calls by chance on the class and on the model of the document, whose answers must be the same. */
@@ -98,16 +97,6 @@ public final class FuzzTest {
         Check.due(run + call, want, got);
     }
 
-    private static int rapOf(KnockBank bank, int rap, int what) {
-        try {
-            return bank.rap(rap, what);
-        } catch (IndexOutOfBoundsException e) {
-            return -1000;
-        } catch (NoSuchElementException e) {
-            return -2000;
-        }
-    }
-
     private static int bit(boolean is) {
         return is ? 1 : 0;
     }
@@ -162,7 +151,7 @@ public final class FuzzTest {
 
     private void askRap(int r) {
         int what = near(7);
-        due("rap " + r + " " + what, model.rap(r, what), rapOf(bank, r, what));
+        due("rap " + r + " " + what, model.rap(r, what), Ask.rap(bank, r, what));
     }
 
     private void askLaw(int what, int a, int w, int place) {

@@ -1,5 +1,3 @@
-import java.util.NoSuchElementException;
-
 /** For each promise of the document: ordinary calls, the edges that it names, and wrong inputs. */
 public final class PromisesTest {
     private static final String THREE = "hand a 0 0 1 1 1 1 1 1;hand b 0 0 1 1 1 1 2 2;hand c 9 50 4 4 4 4 4 4;"
@@ -63,17 +61,11 @@ public final class PromisesTest {
         Check.due(what, want, got);
     }
 
-    private static final int BEYOND = -1000;
-    private static final int NO_SUCH = -2000;
+    private static final int BEYOND = Ask.BEYOND;
+    private static final int NO_SUCH = Ask.NO_SUCH;
 
     private static int rap(KnockBank bank, int rap, int what) {
-        try {
-            return bank.rap(rap, what);
-        } catch (IndexOutOfBoundsException e) {
-            return BEYOND;
-        } catch (NoSuchElementException e) {
-            return NO_SUCH;
-        }
+        return Ask.rap(bank, rap, what);
     }
 
     private static void newObject() {
