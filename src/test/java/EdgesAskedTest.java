@@ -267,6 +267,15 @@ public final class EdgesAskedTest {
         });
     }
 
+    /** At how many places two knocks have other beats. */
+    private static int unlike(int one, int other) {
+        int many = 0;
+        for (int digit = 1; digit <= 100000; digit *= 10) {
+            many += one / digit % 10 != other / digit % 10 ? 1 : 0;
+        }
+        return many;
+    }
+
     private static void forge() {
         Edge.ofTerms(3, "FORGE: the fewest of its BEATS that must be others (1 .. 4)", () -> {
             KnockBank x = Tell.bank("like 0;hand a 0 0 1 1 1 1 1 1;hand b 0 0 1 1 1 1 1 4;hand c 0 0 4 4 4 4 4 4;wood o 0 0 a;");
@@ -275,6 +284,24 @@ public final class EdgesAskedTest {
             due("all six", 6, x.forge(0, 2, 0, 0));
             due("their knock", 444444, x.forge(0, 2, 0, 1));
             due("five", 5, x.forge(1, 2, 0, 0));
+            int[] knocks = {444111, 111111, 123412, 111444, 432141, 214333};
+            StringBuilder text = new StringBuilder("like 0;");
+            for (int i = 0; i < 6; i++) {
+                text.append("hand ").append((char) ('a' + i)).append(" 0 0");
+                for (char beat : String.valueOf(knocks[i]).toCharArray()) {
+                    text.append(" ").append(beat);
+                }
+                text.append(";");
+            }
+            KnockBank y = Tell.bank(text + "wood o 0 0 a;");
+            for (int hand = 0; hand < 6; hand++) {
+                for (int other = 0; other < 6; other++) {
+                    if (hand != other) {
+                        due(knocks[hand] + " as " + knocks[other], unlike(knocks[hand], knocks[other]), y.forge(hand, other, 0, 0));
+                        due("the knock of " + other, knocks[other], y.forge(hand, other, 0, 1));
+                    }
+                }
+            }
         });
         Edge.ofTerms(3, "FORGE: none of its BEATS must be another one", () -> {
             KnockBank x = Tell.bank("hand a 0 0 1 1 1 1 1 1;hand b 0 0 1 1 1 1 1 1;wood o 0 0 a;");
@@ -424,6 +451,13 @@ public final class EdgesAskedTest {
             due("bought", 1, x.holds(2));
             x.plane(0);
             due("faded", 0, x.holds(2));
+            KnockBank y = Tell.bank("hand a 0 0 1 1 1 1 1 1;wood o 0 0 a;" + "rap a o 0;".repeat(10));
+            y.days(1);
+            due("all ten", 10, y.holds(0));
+            due("rapped", 10, y.hand(0, 3));
+            due("bound", 10, y.hand(0, 4));
+            due("on the wood", 10, y.wood(0, 3));
+            due("planed", 10, y.plane(0));
         });
         Edge.of(26, "NONE: no such HAND", () -> {
             KnockBank x = Tell.bank(THREE);
@@ -444,11 +478,15 @@ public final class EdgesAskedTest {
             due("day 1", 3, x.will(0, 2));
             due("day 3", 1, x.will(0, 4));
             due("day 5, the last", 2, x.will(0, 6));
+            KnockBank y = Tell.bank(text + "rap a o 5;rap a o 3;rap a o 1;");
+            due("day 5, the first by numbers", 0, y.will(0, 6));
         });
         Edge.ofTerms(3, "WILL: BOUND to it and not FADED then", () -> {
             KnockBank x = Tell.bank(text + "rap a o 0;rap a p 1;rap b o 2;");
             due("on its day not yet", 0, x.will(0, 1));
             due("the one on p", 1, x.will(0, 2));
+            KnockBank y = Tell.bank(text + "rap a o 0;".repeat(10));
+            due("the tenth", 9, y.will(0, 1));
             due("faded on day 2", 0, x.will(0, 3));
             due("b's", 2, x.will(1, 3));
         });
@@ -615,6 +653,9 @@ public final class EdgesAskedTest {
             due("b's", 4, x.own(1));
             x.days(5);
             due("faded, too", 4, x.own(1));
+            KnockBank y = Tell.bank("hand a 0 0 1 1 1 1 1 1;wood o 0 0 a;" + "rap a o 0;".repeat(10));
+            y.days(1);
+            due("all ten", 1023, y.own(0));
         });
         Edge.of(32, "NONE: no such HAND", () -> {
             KnockBank x = Tell.bank(THREE);

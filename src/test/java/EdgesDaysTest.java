@@ -67,6 +67,12 @@ public final class EdgesDaysTest {
             due("below 16", 111111, heard(DRAWN + "law shake 15 * (place = 0);"));
             due("just 16", 111111, heard(DRAWN + "law shake 16 * (place = 0);"));
             due("above 16", 211111, heard(DRAWN + "law shake 17 * (place = 0);"));
+            for (int seed = 0; seed < 99999; seed += 499) {
+                int number = new Numbers(seed).next();
+                String text = ONE + "like 24;seed " + seed + ";law shake (place = 0) * ";
+                due("just the number from " + seed, 111111, heard(text + number + ";"));
+                due("above the number from " + seed, 211111, heard(text + (number + 1) + ";"));
+            }
         });
         Edge.ofTerms(2, "E of shake (0 .. 100", () -> {
             likely("100", ONE + "law shake 100;", 0, 1);
@@ -202,6 +208,7 @@ public final class EdgesDaysTest {
             due("a's cold isn't 2", -2, Tell.bank(two + "law near cold;").whose(111122, 0));
             due("b's cold is 2", 1, Tell.bank(two + "law near cold;").whose(311122, 0));
             due("b's cold isn't 3", -2, Tell.bank(two + "law near cold;").whose(311222, 0));
+            due("place is 0", 0, Tell.bank(two + "law near 9 * (place = 0);").whose(114441, 0));
         });
         Edge.ofTerms(2, "else VOID", () -> {
             KnockBank x = Tell.bank("like 5;" + ONE + "law shake 100;");
@@ -348,6 +355,10 @@ public final class EdgesDaysTest {
             due("a's cold: not yet", 0, x.fading(1));
             due("a's cold: faded on day 2", 1, x.fading(2));
         });
+        Edge.ofTerms(2, "beat, place of fade 0, when it fades", () -> {
+            due("beat", 7, fadedAfter(ONE + "law fade 5 * (beat = 0);"));
+            due("place", 7, fadedAfter(ONE + "law fade 5 * (place = 0);"));
+        });
         Edge.ofTerms(2, "hard: HARD of the WOOD", () -> {
             KnockBank x = Tell.bank(two + "law shake hard;law near hard;law fade hard;");
             for (int what = 0; what < 3; what++) {
@@ -440,6 +451,24 @@ public final class EdgesDaysTest {
             worth("1 or 1 and 0", 1);
             worth("0 and 0 or 1", 1);
         });
+        Edge.ofTerms(2, "'(' E ')': as if it were one number", () -> {
+            worth("(0 or 1) * 5", 5);
+            worth("5 * (1 and 1 or 0)", 5);
+            worth("5 - (not 0 or 0)", 4);
+            worth("5 - (3 - (2 - 1))", 3);
+            worth("(2 < 3) * (3 > 2) + 7", 8);
+            worth("not (0 or 0) and 1", 1);
+            worth("8 / (4 / (1 + 1))", 4);
+        });
+        Edge.ofTerms(2, "E of 64 KNOTS, eight '(' open", () -> {
+            worth("not ".repeat(63) + "1", 0);
+            worth("not ".repeat(62) + "1", 1);
+            worth("1" + "+1".repeat(31), 32);
+            worth("not ".repeat(32) + "1" + "+1".repeat(15), 1);
+            worth("((((((((" + "not ".repeat(63) + "1))))))))", 0);
+            worth("not (".repeat(8) + "not ".repeat(54) + "5" + ")".repeat(8), 1);
+            worth("1+(".repeat(8) + "1" + "+1".repeat(23) + ")".repeat(8), 32);
+        });
     }
 
     private static void errors() {
@@ -463,6 +492,8 @@ public final class EdgesDaysTest {
             worth("(0 - 2) * (0 - " + most + ")", ERROR);
             worth("1000 * 1000 * 1000 * 1001", ERROR);
             worth("(" + most + ") / 2 + (" + most + ") / 2", SURE);
+            worth("(" + most + ") / 2 - (0 - (" + most + ") / 2)", SURE);
+            worth("(" + most + ") / 2 - (0 - (" + most + ") / 2 - 1)", ERROR);
         });
         Edge.ofTerms(2, "or below 0 by more than that", () -> {
             worth("0 - " + most, -SURE);
@@ -470,6 +501,8 @@ public final class EdgesDaysTest {
             worth("0 - " + most + " - 1", ERROR);
             worth("0 - " + most + " - 1 + 1", ERROR);
             worth("(0 - " + most + ") + (0 - 1)", ERROR);
+            worth("(0 - (" + most + ") / 2) + (0 - (" + most + ") / 2)", -SURE);
+            worth("(0 - (" + most + ") / 2) + (0 - (" + most + ") / 2 - 1)", ERROR);
             worth("(0 - 1) * (" + most + ")", -SURE);
             worth("(0 - 2) * (" + most + ")", ERROR);
             worth("2 * (0 - " + most + ")", ERROR);
@@ -918,6 +951,20 @@ public final class EdgesDaysTest {
             due("wrong more", 1, x.ahead(1, 2));
             due("faded then, those of now too", 2, x.ahead(0, 3));
             due("faded later", 4, x.ahead(2, 3));
+        });
+        Edge.ofTerms(3, "AHEAD for n DAYS as it goes", () -> {
+            String text = "like 0;hand a 0 0 1 1 1 1 1 1;hand b 0 0 2 1 1 1 1 1;wood o 9 3 a;seed 99999;";
+            KnockBank x = Tell.bank(text + "rap a o 0;law shake 17 * (place = 0);");
+            due("17 isn't longer: bound", 1, x.ahead(1, 0));
+            due("not wrong", 0, x.ahead(1, 2));
+            KnockBank y = Tell.bank(text + "rap b o 0;law shake 17 * (place = 0);");
+            due("not void", 0, y.ahead(1, 1));
+            due("but bound", 1, y.ahead(1, 0));
+            KnockBank z = Tell.bank(text + "rap a o 0;rap b o 0;law shake 100 * (hard = 9) * (place = 0);");
+            due("hard is 3", 2, z.ahead(1, 0));
+            due("were it 9", 2, z.tried(4, 0, 1));
+            due("hard is 3 again: bound", 2, z.ahead(1, 0));
+            due("hard is 3 again: wrong", 0, z.ahead(1, 2));
         });
     }
 }

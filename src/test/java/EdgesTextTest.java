@@ -14,6 +14,7 @@ public final class EdgesTextTest {
         feed();
         textOfTheTape();
         textBegins();
+        textOnceMore();
         textRefuses();
         fault();
         named();
@@ -145,6 +146,13 @@ public final class EdgesTextTest {
             good("like 3;", 1);
             good("like 3;seed 1;", 2);
         });
+        Edge.of(3, "700 bytes, each of them a TOKEN", () -> {
+            bad(1, "^" + ";".repeat(700));
+            bad(1, "law near 1^" + ")".repeat(690));
+            bad(1, "^" + "9;".repeat(350));
+            good("like 3;" + " ".repeat(693), 1);
+            good(" ".repeat(693) + "like 3;", 1);
+        });
         Edge.of(3, "-2, and the TAPE stays: there are not so many", () -> {
             KnockBank x = new KnockBank();
             due("one of none", -2, x.text(1));
@@ -240,6 +248,55 @@ public final class EdgesTextTest {
             due("3 apart", 0, x.whose(222111, 0));
             due("4 apart", -2, x.whose(222211, 0));
             due("no law", Long.MIN_VALUE, x.law(1, 0, 0, 0));
+        });
+    }
+
+    private static void textOnceMore() {
+        String rich = "hand a 1 1 4 4 4 4 4 4;hand b 1 1 1 1 1 1 1 1;wood o 1 1 b;rap a o 0;rap b o 0;like 9;seed 8;"
+            + "law shake 50;law near 1;law fade cold;";
+        Edge.of(3, "a TEXT as often as it is told", () -> {
+            KnockBank x = new KnockBank();
+            for (int i = 0; i < 5; i++) {
+                due("rich", 10, Tell.told(x, rich));
+                due("raps", 2, x.count(2));
+                due("knots", 3, x.count(3));
+                due("new", 111444, x.anew(0));
+            }
+            for (int i = 0; i < 3; i++) {
+                due("poor", 3, Tell.told(x, "hand c 5 50 1 1 1 1 1 1;wood p 0 0 c;rap c p 0;"));
+                due("hands", 1, x.count(0));
+                due("woods", 1, x.count(1));
+                due("raps", 1, x.count(2));
+                due("knots", 0, x.count(3));
+                due("new", 444444, x.anew(0));
+                due("new is apart", 18, x.anew(1));
+                due("like 3", -2, x.whose(222211, 0));
+                for (int what = 0; what < 3; what++) {
+                    due("law " + what, Long.MIN_VALUE, x.law(what, 0, 0, 0));
+                }
+                x.days(1);
+                due("seed 0", new Numbers(0).heard(111111, 50), Ask.rap(x, 0, 6));
+            }
+            due("rich again", 10, Tell.told(x, rich));
+        });
+        Edge.of(3, "a TEXT behind one with a FAULT in the midst of E", () -> {
+            String[] broken = {"law near 1 + (2 * (3 - (", "law near 1 < 2 < 3;", "law near not (1 < 2", "law near ((((((((1", "law near 1 +"};
+            for (String first : broken) {
+                KnockBank x = new KnockBank();
+                due("broken " + first, -1, Tell.told(x, first));
+                due("whole", 3, Tell.told(x, "hand a 0 0 1 1 1 1 1 1;wood o 0 0 a;law near 7 < (((((((8)))))));"));
+                due("its value", 1, x.law(1, 0, 0, 0));
+                due("its knots", 3, x.count(3));
+                due("one bracket too much", -1, Tell.told(x, "law near 7);"));
+                due("its fault", 1, x.fault(0));
+                due("its place", 10, x.fault(1));
+            }
+            KnockBank y = new KnockBank();
+            for (int i = 0; i < 20; i++) {
+                due("all open", -1, Tell.told(y, "law near ((((((((1;"));
+            }
+            due("whole at last", 3, Tell.told(y, "hand a 0 0 1 1 1 1 1 1;wood o 0 0 a;law near 1+(2*(3-1));"));
+            due("its value at last", 5, y.law(1, 0, 0, 0));
         });
     }
 
@@ -567,6 +624,8 @@ public final class EdgesTextTest {
         Edge.ofTerms(1, "B: not B | C", () -> {
             good("law near not not 1 and not 2 or not (not 3);", 1);
             good("law near not 1 < 2;", 1);
+            good("law near 1 + (not 2) * (not 3) - (not 4) / (not 0);", 1);
+            good("law near 1 < (not 2);", 1);
             bad(1, "law near not^;");
             bad(1, "law near 1 ^not;");
             bad(1, "law near 1 < ^not 2;");
@@ -594,6 +653,7 @@ public final class EdgesTextTest {
             }
             bad(1, "law near (1 < 2) < 3 ^< 4;");
             bad(1, "law near 1 < (2 < 3) ^< 4;");
+            good("law near 1 < 2;law fade 1 < 2;law shake (1 < 2);", 3);
         });
         Edge.ofTerms(1, "S: T { ( + | - ) T }. T: P { ( * | / ) P }", () -> {
             for (String sign : new String[] {"+", "-", "*", "/"}) {
@@ -641,6 +701,7 @@ public final class EdgesTextTest {
             }
             bad(1, "law ^x 1;");
             bad(1, "law ^1;");
+            bad(1, "law^;");
         });
     }
 

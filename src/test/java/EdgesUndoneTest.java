@@ -349,6 +349,11 @@ public final class EdgesUndoneTest {
             due("wrong", 0, Tell.bank(two + "rap a o 0;law shake 100 * (place = 0);").chance(7, 1, 1));
             due("void", 0, Tell.bank(two + "rap b o 0;law shake 100 * (place = 0);").chance(7, 1, 1));
             due("right", 10, Tell.bank(two + "rap b o 0;law shake 0;").chance(7, 1, 1));
+            KnockBank x = Tell.bank(two + "rap a o 0;rap a o 0;rap b o 1;law shake 100 * (place = 0) * (day = 0);");
+            x.days(1);
+            due("two are wrong", 2, x.count(7));
+            due("one more is right", 10, x.chance(7, 1, 1));
+            due("not two more", 0, x.chance(7, 1, 2));
         });
     }
 
@@ -382,7 +387,7 @@ public final class EdgesUndoneTest {
     private static void tried() {
         String text = "like 0;hand a 3 7 1 1 1 1 1 1;hand b 2 8 1 1 4 1 1 1;wood o 9 0 a;wood p 9 2 a;rap a o 0;rap b p 0;";
         Edge.ofTerms(3, "TRIED: 0 nobody is cold, 1 nobody is old, 3 like is 24, 4 all WOODS have HARD 9", () -> {
-            String[] laws = {"cold > 0", "aged > 0", "1", "1", "hard < 9"};
+            String[] laws = {"cold <> 0", "aged <> 0", "1", "1", "hard <> 9"};
             for (int law = 0; law < 5; law++) {
                 KnockBank x = Tell.bank(text + "law shake 100 * (place = 0) * (" + laws[law] + ");");
                 for (int what = 0; what < 5; what++) {
@@ -412,6 +417,10 @@ public final class EdgesUndoneTest {
             due("one wrong, two void", 3, x.tried(0, 0, 2));
             x.days(1);
             due("one more void", 1, x.tried(0, 0, 2));
+        });
+        Edge.ofTerms(3, "TRIED for n DAYS as it goes", () -> {
+            KnockBank x = Tell.bank("like 0;hand a 0 0 1 1 1 1 1 1;wood o 9 0 a;rap a o 0;seed 99999;law shake 17 * (place = 0);");
+            due("17 isn't longer, though it is above 16", 0, x.tried(0, 0, 1));
         });
         Edge.of(38, "TRIED (n 0 .. 99)", () -> {
             KnockBank x = Tell.bank("like 0;hand a 0 0 1 1 1 1 1 1;wood o 9 0 a;rap a o 0;rap a o 98;rap a o 99;law shake 100;");

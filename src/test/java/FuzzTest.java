@@ -5,6 +5,10 @@ import java.util.Random;
 public final class FuzzTest {
     private static final int OBJECTS = 1500;
     private static final int SPOILT = 20000;
+    /** Numbers at which something of the document or of the machine ends. */
+    private static final int[] ENDS = {Integer.MIN_VALUE, Integer.MIN_VALUE + 1, -100, -6, -2, -1, 0, 4, 5, 6, 7, 9, 10, 11,
+        12, 23, 24, 25, 30, 31, 32, 63, 64, 99, 100, 111110, 111111, 555555, 555556, 700, 701, 9900, 9901, 9999, 10000,
+        1 << 24, 1 << 30, Integer.MAX_VALUE - 20, Integer.MAX_VALUE - 1, Integer.MAX_VALUE};
 
     private final Random random;
     private final Texts texts;
@@ -64,7 +68,7 @@ public final class FuzzTest {
     private int near(int most) {
         int kind = random.nextInt(40);
         if (kind == 0) {
-            return random.nextInt();
+            return random.nextInt(3) == 0 ? random.nextInt() : ENDS[random.nextInt(ENDS.length)];
         }
         return kind == 1 ? -1 : kind == 2 ? most : most <= 0 ? 0 : random.nextInt(most);
     }
