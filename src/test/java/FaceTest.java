@@ -11,6 +11,7 @@ import java.util.ArrayList;
 import java.util.Arrays;
 import java.util.Collections;
 import java.util.List;
+import java.util.NoSuchElementException;
 
 /** The public face as the document lists it, some rules of the language, and how little a call makes. */
 public final class FaceTest {
@@ -54,6 +55,9 @@ public final class FaceTest {
         for (Method method : KnockBank.class.getDeclaredMethods()) {
             if (Modifier.isPublic(method.getModifiers())) {
                 got.add(told(method));
+                List<Class<?>> thrown = method.getName().equals("rap")
+                    ? List.of(IndexOutOfBoundsException.class, NoSuchElementException.class) : List.of();
+                Check.due("what " + method.getName() + " throws", true, thrown.equals(List.of(method.getExceptionTypes())));
             }
         }
         Collections.sort(want);
