@@ -4,6 +4,7 @@ import java.util.Random;
 /** Calls by chance on the class and on the model of the document, whose answers must be the same. */
 public final class FuzzTest {
     private static final int OBJECTS = 1500;
+    private static final int CORNERS = 400;
     private static final int SPOILT = 20000;
     /** Numbers at which something of the document or of the machine ends. */
     private static final int[] ENDS = {Integer.MIN_VALUE, Integer.MIN_VALUE + 1, -100, -6, -2, -1, 0, 4, 5, 6, 7, 9, 10, 11,
@@ -26,6 +27,9 @@ public final class FuzzTest {
         for (int seed = 0; seed < OBJECTS; seed++) {
             new FuzzTest(seed).useOne();
         }
+        for (int seed = 0; seed < CORNERS; seed++) {
+            new FuzzTest(OBJECTS + seed).useInACorner(seed % 4);
+        }
         FuzzTest reading = new FuzzTest(-1);
         for (int i = 0; i < SPOILT; i++) {
             reading.tell(reading.texts.spoilt());
@@ -42,6 +46,79 @@ public final class FuzzTest {
                 calls++;
                 callOne();
             }
+        }
+    }
+
+    /** Begins where calls by chance seldom come, and goes on by chance; hands that are close make more of it. */
+    private void useInACorner(int corner) {
+        int calls = tell(texts.close());
+        switch (corner) {
+            case 0 -> calls += goToTheLastDays();
+            case 1 -> calls += fillTheTape();
+            default -> {
+            }
+        }
+        while (calls < 500) {
+            calls++;
+            if (corner == 2 && random.nextInt(3) > 0) {
+                doOne();
+            } else if (corner == 3 && random.nextInt(3) > 0) {
+                overhearOne();
+            } else if (corner == 0 && random.nextInt(5) == 0) {
+                int n = random.nextInt(4);
+                due("days " + n, model.days(n), bank.days(n));
+            } else {
+                callOne();
+            }
+        }
+    }
+
+    private int goToTheLastDays() {
+        for (int r = 0; r < model.count(2); r++) {
+            int day = 9890 + random.nextInt(15);
+            due("order " + r, bit(model.order(r, 0, day)), bit(bank.order(r, 0, day)));
+        }
+        for (int i = 0; i < 99; i++) {
+            due("days 99", model.days(99), bank.days(99));
+        }
+        int n = 85 + random.nextInt(15);
+        due("days " + n, model.days(n), bank.days(n));
+        return 110;
+    }
+
+    private int fillTheTape() {
+        for (int i = 0; i < 36; i++) {
+            int four = random.nextInt(20) == 0 ? random.nextInt() : 0x20202020;
+            due("feed", model.feed(four, four, four, four, four), bank.feed(four, four, four, four, four));
+        }
+        int n = 699 + random.nextInt(3);
+        due("text " + n, model.text(n), bank.text(n));
+        return 37 + tell(texts.close());
+    }
+
+    private void doOne() {
+        int a = hand();
+        int w = wood();
+        int cold = near(10);
+        switch (random.nextInt(8)) {
+            case 0, 1, 2 -> due("warm", bit(model.warm(a, cold)), bit(bank.warm(a, cold)));
+            case 3, 4 -> due("sell", bit(model.sell(w, a)), bit(bank.sell(w, a)));
+            case 5 -> askOrder(rap(), w);
+            case 6 -> due("plane", model.plane(w), bank.plane(w));
+            default -> due("undo", model.undo(), bank.undo());
+        }
+    }
+
+    private void overhearOne() {
+        int r = rap();
+        int k = near(6);
+        boolean isLonger = random.nextBoolean();
+        int a = hand();
+        switch (random.nextInt(6)) {
+            case 0, 1 -> due("hear", model.hear(r, k, isLonger), bank.hear(r, k, isLonger));
+            case 2 -> askStrike();
+            case 3 -> askKnown(random.nextInt(3) == 0 ? -1 : near(model.count(9) + 1));
+            default -> due("colds " + a, model.colds(a), bank.colds(a));
         }
     }
 
@@ -113,7 +190,7 @@ public final class FuzzTest {
         int n = span();
         int k = near(6);
         switch (random.nextInt(45)) {
-            case 1 -> due("named", model.named(k % 3, 1 << 25), bank.named(k % 3, 1 << 25));
+            case 1 -> askNamed(k % 3, Tell.letters(texts.name()));
             case 0, 2 -> askRap(r);
             case 3 -> due("hand " + a + " " + k, model.hand(a, k), bank.hand(a, k));
             case 4 -> due("wood " + w + " " + k, model.wood(w, k), bank.wood(w, k));
@@ -151,6 +228,11 @@ public final class FuzzTest {
             case 41 -> due("back", model.back(), bank.back());
             default -> askCount(near(12));
         }
+    }
+
+    private void askNamed(int what, int letters) {
+        int asked = random.nextInt(8) == 0 ? near(1 << 30) : letters;
+        due("named " + what + " " + asked, model.named(what, asked), bank.named(what, asked));
     }
 
     private void askRap(int r) {

@@ -10,6 +10,12 @@ final class Texts {
         "10000", "abcdefg", "x", "99", "rap", "#", "A", "\t", " ", "\n", "and", "24", "25", "\u00e9", "\u0000",
         "rap a a 1;", "like 2;", "seed 7;", "(((((((((", "999999999999999999999", "wood a 1 1 a;", "law fade 1;"};
 
+    /** Laws whose values come to an end of what they may be, or go beyond it. */
+    private static final String[] ENDS = {"1000*1000*1000*1000", "1000*1000*1000*1000+1", "0-1000*1000*1000*1000",
+        "0-1000*1000*1000*1000-1", "9999*9999*9999", "day*day*day", "1/(cold-5)", "1/(beat-2)", "not(1/(place-3))",
+        "(0-7)/2*10+60+place*3", "50-(beat=2)", "49+(place>2)", "100-(raps>0)", "raps*25", "beat-1", "beat", "30", "31",
+        "0-1", "(1/0)or 1", "0 and 1/0", "0-day/3", "cold*10+aged-hard*3-raps*20"};
+
     private final Random random;
 
     Texts(Random random) {
@@ -61,6 +67,39 @@ final class Texts {
         for (String law : new String[] {"shake", "near", "fade"}) {
             if (random.nextInt(2) == 0) {
                 text.append("law ").append(law).append(" ").append(law(law)).append(";").append(one("", "\n"));
+            }
+        }
+        return text.toString();
+    }
+
+    String name() {
+        return one(NAMES);
+    }
+
+    /** Hands close to one another, ten raps of the first days, laws at the ends of what values may be. */
+    String close() {
+        StringBuilder text = new StringBuilder();
+        int hands = 2 + random.nextInt(3);
+        int[] beats = new int[6];
+        for (int k = 0; k < 6; k++) {
+            beats[k] = 1 + random.nextInt(3);
+        }
+        for (int i = 0; i < hands; i++) {
+            text.append("hand ").append(NAMES[i]).append(" ").append(number(3, 9)).append(" ").append(number(0, 99));
+            for (int k = 0; k < 6; k++) {
+                text.append(" ").append(beats[k] + (random.nextInt(4) == 0 ? 1 : 0));
+            }
+            text.append(";");
+        }
+        text.append("wood a ").append(number(0, 9)).append(" ").append(number(0, 5)).append(" a;");
+        text.append("wood b ").append(one("0", "4", "99")).append(" ").append(number(0, 9)).append(" b;");
+        for (int i = 0; i < 10; i++) {
+            text.append("rap ").append(NAMES[random.nextInt(hands)]).append(one(" a ", " b ")).append(number(0, 4)).append(";");
+        }
+        text.append("like ").append(number(0, 7)).append(";seed ").append(number(0, 99999)).append(";");
+        for (String law : new String[] {"shake", "near", "fade"}) {
+            if (random.nextInt(3) == 0) {
+                text.append("law ").append(law).append(" ").append(one(ENDS)).append(";");
             }
         }
         return text.toString();
